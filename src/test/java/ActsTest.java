@@ -137,6 +137,17 @@ public final class ActsTest {
         CHECK.due("10: 60 steps, move", PenPage.NONE, () -> x.move(0, 0, 0, 0));
         CHECK.due("60 steps: counted", 4, () -> x.count(2));
         CHECK.due("another writer goes on", 1, () -> x.set(1, 0, 97));
+        for (int n = 1; n <= 60; n++) {
+            x.send(0, 1, 0, n);
+        }
+        int place = 0;
+        while (x.text(1, place, 1) != 60) {
+            place++;
+        }
+        int last = place;
+        CHECK.due("8: the 60th mark", 2, () -> x.strike(1, last));
+        CHECK.due("8: is struck", 60, () -> x.page(1, 1));
+        CHECK.due("8: by its number", 60, () -> x.step(1, 1, 2, 3));
     }
 
     private static void ages() {
