@@ -92,8 +92,7 @@ public final class PenPage {
         for (int w = 0; w < MOST_WRITERS; w++) {
             pages[w].empty();
         }
-        tapeLength = 0;
-        faultPlace = NONE;
+        // The tape and the latest hear()'s FAULT are no WRITER's: they stay.
         imageKept = false;
         viewed = NONE;
     }

@@ -251,8 +251,6 @@ final class Model {
         writers = n;
         pages = newPages(n);
         keptPages = null;
-        tape.clear();
-        faultPlace = -1;
     }
 
     int count(int what) {

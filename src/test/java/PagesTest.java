@@ -6,6 +6,7 @@ public final class PagesTest {
         newObject();
         writers();
         writersAnew();
+        tapeBehindWriters();
         counts();
         pageAnswers();
         textAnswers();
@@ -66,8 +67,8 @@ public final class PagesTest {
         CHECK.due("2: none held", 0, () -> x.page(0, 2));
         CHECK.due("2: no age", 0, () -> x.page(0, 4));
         CHECK.due("2: no steps", 0, () -> x.page(1, 11));
-        CHECK.due("2: the tape is new", 0, () -> x.count(1));
-        CHECK.due("2: the fault is gone", PenPage.NONE, x::fault);
+        CHECK.due("2: the tape stays", 20, () -> x.count(1));
+        CHECK.due("2: the latest fault stays", 2, x::fault);
         CHECK.due("2: STATUS 0 stays", 1, () -> x.count(2));
         CHECK.due("2: STATUS 1 stays", 1, () -> x.count(3));
         CHECK.due("2: STATUS 2 stays", 1, () -> x.count(4));
@@ -76,6 +77,29 @@ public final class PagesTest {
         CHECK.due("2: the story stays", 1, () -> x.story(0));
         CHECK.due("2: the image is gone", 0, () -> x.restore() ? 1 : 0);
         CHECK.due("2: steps begin again", 1, () -> x.set(0, 0, 97));
+    }
+
+    /** Bytes that came ahead of writers() are heard behind it, by the writers that there are then. */
+    private static void tapeBehindWriters() {
+        PenPage x = new PenPage();
+        x.writers(3);
+        // Writer 2's first step: a set of 'a' under the key 402.
+        x.feed(0x00020100, 0x00000000, 0x00016101, 0x0192F900, 0);
+        x.writers(3);
+        CHECK.due("3: the tape behind writers", 20, () -> x.count(1));
+        CHECK.due("13: its bytes stay", 2, () -> x.hear(0, 15));
+        CHECK.due("13: it is empty then", 0, () -> x.count(1));
+        CHECK.due("5: the mark heard", 201, () -> x.text(0, 0, 1));
+        x.feed(0x00020100, 0x00000000, 0x00016101, 0x0192F900, 0);
+        x.writers(2);
+        CHECK.due("14: no fault stays none", PenPage.NONE, x::fault);
+        CHECK.due("12: more come behind", 40, () -> x.feed(0, 0, 0, 0, 0));
+        CHECK.due("13: no such writer now", 12, () -> x.hear(0, 15));
+        CHECK.due("14: its place", 1, x::fault);
+        x.writers(5);
+        CHECK.due("14: stays behind writers", 1, x::fault);
+        CHECK.dueDeed("2: refused", Check.ILLEGAL, () -> x.writers(0));
+        CHECK.due("14: stays behind a refused one", 1, x::fault);
     }
 
     private static void counts() {
