@@ -237,6 +237,19 @@ public final class ModelTest {
         }
     }
 
+    /** Bytes of a tape are there at times, as is a fault; what stays is asked at once. */
+    private void writersAnew(int n) {
+        if (random.nextBoolean()) {
+            same("feed(0, 1, 2, 3, 4)", () -> x.feed(0, 1, 2, 3, 4), () -> m.feed(0, 1, 2, 3, 4));
+        }
+        same("writers(" + n + ")", () -> deed(() -> x.writers(n)), () -> deed(() -> m.writers(n)));
+        same("fault()", x::fault, m::fault);
+        for (int i = 0; i < 7; i++) {
+            int what = i;
+            same("count(" + what + ")", () -> x.count(what), () -> m.count(what));
+        }
+    }
+
     private void other() {
         switch (random.nextInt(12)) {
             case 0 -> same("image()", () -> deed(x::image), () -> deed(m::image));
@@ -247,8 +260,7 @@ public final class ModelTest {
             }
             case 2 -> {
                 if (random.nextInt(25) == 0) {
-                    int n = random.nextInt(7);
-                    same("writers(" + n + ")", () -> deed(() -> x.writers(n)), () -> deed(() -> m.writers(n)));
+                    writersAnew(random.nextInt(7));
                 }
             }
             case 3 -> {
