@@ -40,6 +40,28 @@ final class Bytes {
         bytes[9] = age % 256;
     }
 
+    /** A MOVE; of each mark its number and behind it the numbers of its key. */
+    static int[] move(int writer, int number, int age, int[]... marksAndKeys) {
+        int[] body = new int[400];
+        int length = 0;
+        body[length++] = marksAndKeys.length;
+        for (int[] moved : marksAndKeys) {
+            body[length++] = moved[0] / 100;
+            body[length++] = moved[0] % 100;
+            body[length++] = moved.length - 1;
+            for (int k = 1; k < moved.length; k++) {
+                body[length++] = moved[k] / 256;
+                body[length++] = moved[k] % 256;
+            }
+        }
+        return of(3, writer, number, age, java.util.Arrays.copyOf(body, length));
+    }
+
+    /** The packet of a writer who has seen so many steps of another one. */
+    static int[] seeing(int[] packet, int other, int steps) {
+        return with(packet, 3 + other, steps);
+    }
+
     /** The packet with one byte put otherwise, closed rightly again. */
     static int[] with(int[] packet, int place, int value) {
         int[] bytes = java.util.Arrays.copyOf(packet, packet.length - 1);

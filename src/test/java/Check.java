@@ -16,6 +16,12 @@ final class Check {
     }
 
     private int wrong = 0;
+    private String sentence = "";
+
+    /** The words of the document that the checks from here on are about; they are told with what is wrong. */
+    void sentence(String words) {
+        sentence = "\"" + words + "\" ";
+    }
 
     /** The call's answer, or NO_SUCH or ILLEGAL for what it throws. */
     static long answerOf(Call call) {
@@ -32,7 +38,7 @@ final class Check {
         long got = answerOf(call);
         if (got != want) {
             wrong++;
-            System.out.println(what + " answered " + tell(got) + ", due is " + tell(want));
+            System.out.println(sentence + what + " answered " + tell(got) + ", due is " + tell(want));
         }
     }
 
