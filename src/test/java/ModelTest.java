@@ -65,10 +65,19 @@ public final class ModelTest {
         return got;
     }
 
-    /** Mostly a number from 0 to below a bound, at times one that lies outside. */
+    /** Mostly a number from 0 to below a bound, at times one that lies outside, just so or far. */
     private int some(int below) {
-        if (random.nextInt(40) == 0) {
-            return random.nextBoolean() ? -1 : below;
+        switch (random.nextInt(160)) {
+            case 0, 1:
+                return -1;
+            case 2, 3:
+                return below;
+            case 4:
+                return Integer.MIN_VALUE + random.nextInt(2);
+            case 5:
+                return Integer.MAX_VALUE - random.nextInt(2);
+            default:
+                break;
         }
         return below <= 0 ? 0 : random.nextInt(below);
     }
