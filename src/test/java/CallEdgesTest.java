@@ -388,8 +388,10 @@ public final class CallEdgesTest {
         PenPage x = busy();
         for (int round = 0; round < 2; round++) {
             CHECK.due("count", 1, () -> x.count(2));
-            CHECK.due("page 0", 1, () -> x.page(0, 1));
-            CHECK.due("page 1", 2, () -> x.page(1, 1));
+            CHECK.due("text of page 0", 1, () -> x.page(0, 1));
+            CHECK.due("text of page 1", 2, () -> x.page(1, 1));
+            CHECK.due("marks of page 0", 1, () -> x.page(0, 0));
+            CHECK.due("marks of page 1", 2, () -> x.page(1, 0));
             CHECK.due("text of page 1", 99, () -> x.text(1, 1, 0));
             CHECK.due("text of page 0", 97, () -> x.text(0, 0, 0));
             CHECK.due("packet", 15, () -> x.packet(1, 1, 2, PenPage.NONE));

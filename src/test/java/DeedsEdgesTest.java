@@ -25,6 +25,7 @@ public final class DeedsEdgesTest {
         answersTheNumber();
         goneOfEachWriter();
         goneBySight();
+        goneOfAnyMark();
         goneByLatestStep();
         goneOfOneWriter();
         goneNoMore();
@@ -181,6 +182,8 @@ public final class DeedsEdgesTest {
         CHECK.due("the set of the gone one", 6, () -> x.undo(0, 1));
         CHECK.due("the undo of that", 7, () -> x.undo(0, 6));
         gone("on page 1 it isn't gone", false, x, 1, 1);
+        CHECK.due("none is gone there", 0, () -> x.page(1, 3));
+        CHECK.due("one is gone here", 1, () -> x.page(0, 3));
         CHECK.due("so there it can be undone", 3, () -> x.undo(1, 1));
 
         PenPage y = texted(1);
@@ -276,8 +279,19 @@ public final class DeedsEdgesTest {
         CHECK.due("the last behind itself", 3, () -> y.move(0, 1, 1, 2));
         key("behind its own old key", y, 0, 1, 480);
         had(y, 0, Bytes.of(1, 1, 3, 9, 1, 2));
-        CHECK.due("at 0 with a struck one behind", 4, () -> y.move(0, 0, 0, 1));
+        CHECK.due("with a struck one behind", 4, () -> y.move(0, 0, 0, 1));
         key("b is the struck one", y, 0, 0, 288);
+
+        CHECK.sentence("and the WRITER, and it ends");
+        for (int w = 0; w < 5; w++) {
+            PenPage z = new PenPage();
+            z.writers(5);
+            z.set(w, 0, 97);
+            z.set(w, 1, 98);
+            z.move(w, 0, 1, 2);
+            key("the first of a move by writer " + w, z, w, 0, 696 + w);
+            key("the second", z, w, 1, 744 + w);
+        }
     }
 
     private static int[] row(int many, int number, int last) {
@@ -475,6 +489,32 @@ public final class DeedsEdgesTest {
         x.set(0, 0, 100);
         x.send(0, 1, 0, 5);
         gone("his next step saw the strike", true, x, 1, 1);
+    }
+
+    private static void goneOfAnyMark() {
+        CHECK.sentence("GONE on a PAGE is a MARK");
+        PenPage x = texted(3);
+        x.strike(0, 1);
+        had(x, 0, Bytes.seeing(Bytes.of(1, 1, 1, 9, 0, 2), 0, 4));
+        gone("the first stands", false, x, 0, 1);
+        gone("the second is gone", true, x, 0, 2);
+        gone("the third stands", false, x, 0, 3);
+        CHECK.due("one is gone", 1, () -> x.page(0, 3));
+        x.strike(0, 0);
+        gone("the first is struck by one alone", false, x, 0, 1);
+        CHECK.due("one is gone still", 1, () -> x.page(0, 3));
+        x.strike(0, 0);
+        had(x, 0, Bytes.seeing(Bytes.of(1, 1, 2, 12, 0, 3), 0, 6));
+        CHECK.due("two are gone", 2, () -> x.page(0, 3));
+
+        PenPage y = new PenPage();
+        had(y, 1, Bytes.set(0, 1, 1, 97, 400));
+        y.strike(1, 0);
+        had(y, 1, Bytes.seeing(Bytes.of(1, 0, 2, 9, 0, 1), 1, 1));
+        gone("on page 1 alone", true, y, 1, 1);
+        CHECK.due("one on page 1", 1, () -> y.page(1, 3));
+        CHECK.due("none on page 0", 0, () -> y.page(0, 3));
+        CHECK.due("it has no such mark", Check.NO_SUCH, () -> y.gone(0, 1) ? 1 : 0);
     }
 
     private static void goneByLatestStep() {

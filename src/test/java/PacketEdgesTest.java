@@ -523,6 +523,12 @@ public final class PacketEdgesTest {
         CHECK.due("his own stays", 97, () -> y.text(0, 0, 0));
         int[] strike = Bytes.of(2, 0, 1, 1, 0);
         CHECK.due("of another kind and length", 14, () -> Bytes.hear(y, 0, strike));
+        PenPage z = three();
+        held(z, 0, Bytes.set(1, 3, 9, 97, 400));
+        held(z, 0, Bytes.set(2, 2, 9, 97, 400));
+        held(z, 0, Bytes.set(1, 2, 9, 97, 400));
+        held(z, 0, Bytes.set(2, 3, 9, 97, 400));
+        CHECK.due("like numbers of unlike writers are no others", 4, () -> z.page(0, 2));
         int[] sum = Bytes.set(0, 1, 1, 98, 400);
         sum[14] ^= 1;
         CHECK.due("a wrong sum is told ahead of it", 13, () -> Bytes.hear(y, 0, sum));

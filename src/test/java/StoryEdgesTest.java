@@ -147,6 +147,9 @@ public final class StoryEdgesTest {
         PenPage x = told("a");
         acts(x, act(0, 0, 'a'));
         CHECK.due("at the length 0", 1, () -> x.story(0));
+        PenPage w = told("axyb");
+        acts(w, act(0, 0, 'a'), act(0, 1, 'b'), act(0, 1, 'x'), act(0, 2, 'y'));
+        CHECK.due("in the middle: those behind it go on", 1, () -> w.story(0));
         PenPage y = told("a");
         acts(y, act(0, 1, 'a'));
         CHECK.due("at 1 of an empty text", 0, () -> y.story(0));

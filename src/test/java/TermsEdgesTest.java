@@ -372,6 +372,10 @@ public final class TermsEdgesTest {
         marks("by the keys now", x, 0, 102, 101);
         had(x, 0, Bytes.move(1, 4, 3, new int[] {102, 100}));
         key("a later move of another mark leaves the key", x, 0, 1, 600);
+        had(x, 0, Bytes.seeing(Bytes.move(0, 1, 2, new int[] {102, 700}), 1, 2));
+        key("an older move of the other mark", x, 0, 0, 100);
+        had(x, 0, Bytes.seeing(Bytes.move(0, 2, 4, new int[] {102, 700}), 1, 2));
+        key("a newer one", x, 0, 1, 700);
     }
 
     private static void shows() {
@@ -485,6 +489,16 @@ public final class TermsEdgesTest {
         key("behind the last moved one", x, 0, 3, 600);
         x.set(0, 2, 99);
         key("ahead of the last moved one", x, 0, 2, 400, 600);
+
+        // A longer key that was grown just ahead leaves nothing behind.
+        PenPage y = new PenPage();
+        had(y, 0, Bytes.set(1, 1, 1, 97, 100, 500, 500));
+        had(y, 0, Bytes.set(1, 2, 1, 98, 400));
+        had(y, 0, Bytes.set(1, 3, 1, 99, 408));
+        y.set(0, 1, 100);
+        key("between a long one and a short one", y, 0, 1, 248);
+        y.set(0, 3, 101);
+        key("between two short ones", y, 0, 3, 400, 400);
     }
 
     private static void newKeyGoesOn() {
