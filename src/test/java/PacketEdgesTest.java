@@ -15,6 +15,7 @@ public final class PacketEdgesTest {
 
     public static void main(String[] args) {
         headBytes();
+        writersOfPackets();
         ageBytes();
         signByte();
         keyBytes();
@@ -111,6 +112,33 @@ public final class PacketEdgesTest {
         fine("number 1", Bytes.set(1, 1, 1, 97, 8));
         fine("number 60", Bytes.set(1, 60, 1, 97, 8));
         fine("writer 2", Bytes.set(2, 1, 1, 97, 8));
+    }
+
+    private static void writersOfPackets() {
+        CHECK.sentence("SEEN of WRITERS 0 to 4 (0 of those that there aren't)");
+        for (int n = 1; n <= 5; n++) {
+            PenPage x = new PenPage();
+            x.writers(n);
+            int last = n - 1;
+            CHECK.due("of the last of " + n, 2, () -> Bytes.hear(x, 0, Bytes.set(last, 1, 1, 97, 400)));
+            for (int w = n; w < 5; w++) {
+                int none = w;
+                CHECK.due("of writer " + w + " of " + n, 12, () -> Bytes.hear(x, 0, Bytes.set(none, 1, 1, 97, 400)));
+                CHECK.due("at the writer", 1, x::fault);
+                CHECK.due("seen of him", 12, () -> Bytes.hear(x, 0, Bytes.seeing(Bytes.set(last, 2, 1, 97, 400), none, 1)));
+                CHECK.due("at that", 3 + w, x::fault);
+                CHECK.due("a mark of his", 12, () -> Bytes.hear(x, 0, Bytes.of(1, last, 2, 1, none, 1)));
+                CHECK.due("at the mark", 10, x::fault);
+            }
+            for (int w = 0; w < last; w++) {
+                int other = w;
+                CHECK.due("seen of one that there is", 1,
+                        () -> Bytes.hear(x, 0, Bytes.seeing(Bytes.set(last, 2 + other, 1, 97, 400), other, 60)));
+            }
+            x.set(last, 0, 97);
+            int[] done = Bytes.read(x, last, last, 1);
+            CHECK.due("a step done here has seen none", 0, () -> done[3] + done[4] + done[5] + done[6] + done[7]);
+        }
     }
 
     private static void ageBytes() {
