@@ -300,6 +300,9 @@ public final class PacketEdgesTest {
         }
         fault("a number cut in two", 1, 17, Arrays.copyOf(SET, 17));
         fault("an age cut in two", 1, 9, Arrays.copyOf(SET, 9));
+        for (int high : new int[] {3, 4, 255}) {
+            fault("a number is judged by both its bytes, " + high, 1, 13, Arrays.copyOf(Bytes.with(SET, 12, high), 13));
+        }
     }
 
     private static void faultyChangesNothing() {
@@ -648,6 +651,10 @@ public final class PacketEdgesTest {
         CHECK.due("under its own key", 400, () -> x.text(0, 0, 10));
         CHECK.due("their ages count", 6, () -> x.page(0, 4));
         CHECK.due("the strike tells its mark", 102, () -> x.step(0, 1, 3, 3));
+        for (int number = 3; number <= 6; number++) {
+            int n = number;
+            CHECK.due("it holds, as no undo is of it: step " + n, 1, () -> x.step(0, 1, n, 2));
+        }
         CHECK.due("they go on to others", 1, () -> x.send(0, 1, 1, 6));
         CHECK.due("they are lacked", 6, () -> x.lacks(1, 0, PenPage.NONE));
         had(x, 0, Bytes.of(1, 1, 7, 7, 1, 3));
